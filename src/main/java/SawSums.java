@@ -260,7 +260,7 @@ public final class SawSums {
     }
 
     public boolean times(int a, int b, int c, int d) {
-        return Matrix.isOne(a, b, c, d) && matrix.multiply(a, b, c, d);
+        return Matrix.isMatrix(a, b, c, d) && matrix.multiply(a, b, c, d);
     }
 
     public boolean invert() {
@@ -588,7 +588,7 @@ public final class SawSums {
             d = 1;
         }
 
-        static boolean isOne(long a, long b, long c, long d) {
+        static boolean isMatrix(long a, long b, long c, long d) {
             // The bounds come first: within them the products fit a long.
             return lies(a, -GREATEST, GREATEST) && lies(b, -GREATEST, GREATEST)
                 && lies(c, -GREATEST, GREATEST) && lies(d, -GREATEST, GREATEST)
@@ -596,7 +596,7 @@ public final class SawSums {
         }
 
         boolean become(long newA, long newB, long newC, long newD) {
-            if (!isOne(newA, newB, newC, newD)) {
+            if (!isMatrix(newA, newB, newC, newD)) {
                 return false;
             }
             a = (int) newA;

@@ -21,6 +21,7 @@ public final class TextTest {
         tokens();
         longTexts();
         phis();
+        apart();
         random();
         CHECK.finish();
     }
@@ -365,6 +366,37 @@ public final class TextTest {
         against(x, "phi+x");
         x.invert();
         CHECK.due("too great", 3 + 8, tell(x, "-phi"));
+    }
+
+    /** Other calls leave the TAPE and what was told alone, and texts leave the MATRIX alone. */
+    private static void apart() {
+        SawSums x = new SawSums();
+        CHECK.due("tell", 0, tell(x, "s(1,3)"));
+        put(x, "s(1,5)+phi*2");
+        x.set(2, 5, 1, 3);
+        x.saw(1, 3, false);
+        x.sum(5, 77, true);
+        x.both(3, 4, false);
+        x.three(3, 4, 5, false);
+        x.above(3, 4, 50);
+        x.alike(3, 499, NONE);
+        x.sorts(499, 0);
+        x.pyramid(30, 20, 10);
+        x.rings(997, NONE);
+        x.twins(997, NONE);
+        x.word(NONE);
+        CHECK.due("the TAPE stays", 12, x.count(0));
+        CHECK.due("what was told stays", 1, x.told(false));
+        CHECK.due("what was told stays", 18, x.told(true));
+        CHECK.due("one SUM yet", 1, x.count(1));
+        CHECK.due("phi", 5, x.phi(0));
+        CHECK.due("tell", 0, x.tell());
+        CHECK.due("1/5 + 5*2", 51, x.told(false));
+        CHECK.due("1/5 + 5*2", 5, x.told(true));
+        CHECK.due("a stays", 2, x.of(0));
+        CHECK.due("b stays", 5, x.of(1));
+        CHECK.due("c stays", 1, x.of(2));
+        CHECK.due("d stays", 3, x.of(3));
     }
 
     private static final String[] PARTS = {"+", "-", "*", "/", "(", ")", ",", "saw", "s", "phi", "saw(", "s(", "s(1,5)",

@@ -7,7 +7,7 @@ public final class PointsTest {
     private static final int MILLION = 1000000;
     private static final int BILLION = 1000000000;
     private static final Check CHECK = new Check("points");
-    private static final SawSums X = new SawSums();
+    private static final Fresh X = new Fresh();
 
     private PointsTest() {
     }
@@ -25,7 +25,7 @@ public final class PointsTest {
         for (int i = 0; i < n; i++) {
             want += Math.floorDiv((long) a * i + b, (long) m);
         }
-        CHECK.due("steps " + a + " " + b + " " + m + " " + n, want, X.steps(a, b, m, n));
+        CHECK.due("steps " + a + " " + b + " " + m + " " + n, want, X.one().steps(a, b, m, n));
     }
 
     private static void steps() {
@@ -54,15 +54,15 @@ public final class PointsTest {
                 1 + random.nextInt(MILLION), random.nextInt(100001));
         }
         for (int bad : new int[] {MILLION + 1, -MILLION - 1, Integer.MIN_VALUE, Integer.MAX_VALUE}) {
-            CHECK.due("steps a " + bad, NO, X.steps(bad, 0, 2, 5));
-            CHECK.due("steps b " + bad, NO, X.steps(1, bad, 2, 5));
-            CHECK.due("steps m " + bad, NO, X.steps(1, 0, bad, 5));
-            CHECK.due("steps n " + bad, NO, X.steps(1, 0, 2, bad));
+            CHECK.due("steps a " + bad, NO, X.one().steps(bad, 0, 2, 5));
+            CHECK.due("steps b " + bad, NO, X.one().steps(1, bad, 2, 5));
+            CHECK.due("steps m " + bad, NO, X.one().steps(1, 0, bad, 5));
+            CHECK.due("steps n " + bad, NO, X.one().steps(1, 0, 2, bad));
         }
-        CHECK.due("steps m 0", NO, X.steps(1, 0, 0, 5));
-        CHECK.due("steps m -1", NO, X.steps(1, 0, -1, 5));
-        CHECK.due("steps n -1", NO, X.steps(1, 0, 2, -1));
-        CHECK.due("steps n 100001", NO, X.steps(1, 0, 2, 100001));
+        CHECK.due("steps m 0", NO, X.one().steps(1, 0, 0, 5));
+        CHECK.due("steps m -1", NO, X.one().steps(1, 0, -1, 5));
+        CHECK.due("steps n -1", NO, X.one().steps(1, 0, 2, -1));
+        CHECK.due("steps n 100001", NO, X.one().steps(1, 0, 2, 100001));
     }
 
     private static BigInteger big(long number) {
@@ -110,7 +110,7 @@ public final class PointsTest {
             for (int b = 1; b <= 9; b++) {
                 for (int c = 0; c <= 40; c++) {
                     CHECK.due("oracles alike", slowPoints(a, b, c), points(a, b, c));
-                    CHECK.due("triangle " + a + " " + b + " " + c, slowPoints(a, b, c), X.triangle(a, b, c));
+                    CHECK.due("triangle " + a + " " + b + " " + c, slowPoints(a, b, c), X.one().triangle(a, b, c));
                 }
             }
         }
@@ -119,7 +119,7 @@ public final class PointsTest {
         for (int a : edges) {
             for (int b : edges) {
                 for (int c : new int[] {0, 1, MILLION, BILLION - 1, BILLION}) {
-                    CHECK.due("triangle " + a + " " + b + " " + c, points(a, b, c), X.triangle(a, b, c));
+                    CHECK.due("triangle " + a + " " + b + " " + c, points(a, b, c), X.one().triangle(a, b, c));
                 }
             }
         }
@@ -127,18 +127,18 @@ public final class PointsTest {
             int a = 1 + random.nextInt(i % 2 == 0 ? MILLION : 50);
             int b = 1 + random.nextInt(i % 3 == 0 ? MILLION : 50);
             int c = random.nextInt(BILLION + 1);
-            CHECK.due("triangle " + a + " " + b + " " + c, points(a, b, c), X.triangle(a, b, c));
-            CHECK.due("inside " + a + " " + b + " " + c, points(a, b, (long) c - a - b - 1), X.inside(a, b, c));
+            CHECK.due("triangle " + a + " " + b + " " + c, points(a, b, c), X.one().triangle(a, b, c));
+            CHECK.due("inside " + a + " " + b + " " + c, points(a, b, (long) c - a - b - 1), X.one().inside(a, b, c));
         }
         for (int bad : new int[] {0, -1, MILLION + 1, Integer.MIN_VALUE, Integer.MAX_VALUE}) {
-            CHECK.due("triangle a " + bad, NO, X.triangle(bad, 1, 5));
-            CHECK.due("triangle b " + bad, NO, X.triangle(1, bad, 5));
-            CHECK.due("inside a " + bad, NO, X.inside(bad, 1, 5));
-            CHECK.due("inside b " + bad, NO, X.inside(1, bad, 5));
+            CHECK.due("triangle a " + bad, NO, X.one().triangle(bad, 1, 5));
+            CHECK.due("triangle b " + bad, NO, X.one().triangle(1, bad, 5));
+            CHECK.due("inside a " + bad, NO, X.one().inside(bad, 1, 5));
+            CHECK.due("inside b " + bad, NO, X.one().inside(1, bad, 5));
         }
         for (int bad : new int[] {-1, BILLION + 1, Integer.MIN_VALUE, Integer.MAX_VALUE}) {
-            CHECK.due("triangle c " + bad, NO, X.triangle(1, 1, bad));
-            CHECK.due("inside c " + bad, NO, X.inside(1, 1, bad));
+            CHECK.due("triangle c " + bad, NO, X.one().triangle(1, 1, bad));
+            CHECK.due("inside c " + bad, NO, X.one().inside(1, 1, bad));
         }
     }
 
@@ -152,14 +152,14 @@ public final class PointsTest {
                             want++;
                         }
                     }
-                    CHECK.due("inside " + a + " " + b + " " + c, want, X.inside(a, b, c));
+                    CHECK.due("inside " + a + " " + b + " " + c, want, X.one().inside(a, b, c));
                 }
             }
         }
-        CHECK.due("inside 1 1 10^9", 499999998500000001L, X.inside(1, 1, BILLION));
-        CHECK.due("inside 10^6 10^6 0", 0, X.inside(MILLION, MILLION, 0));
-        CHECK.due("inside 10^6 10^6 2 10^6", 0, X.inside(MILLION, MILLION, 2 * MILLION));
-        CHECK.due("inside 10^6 10^6 2 10^6 + 1", 1, X.inside(MILLION, MILLION, 2 * MILLION + 1));
+        CHECK.due("inside 1 1 10^9", 499999998500000001L, X.one().inside(1, 1, BILLION));
+        CHECK.due("inside 10^6 10^6 0", 0, X.one().inside(MILLION, MILLION, 0));
+        CHECK.due("inside 10^6 10^6 2 10^6", 0, X.one().inside(MILLION, MILLION, 2 * MILLION));
+        CHECK.due("inside 10^6 10^6 2 10^6 + 1", 1, X.one().inside(MILLION, MILLION, 2 * MILLION + 1));
     }
 
     private static void pyramid(int a, int b, int c) {
@@ -172,7 +172,7 @@ public final class PointsTest {
                 }
             }
         }
-        CHECK.due("pyramid " + a + " " + b + " " + c, want, X.pyramid(a, b, c));
+        CHECK.due("pyramid " + a + " " + b + " " + c, want, X.one().pyramid(a, b, c));
     }
 
     private static void pyramid() {
@@ -192,9 +192,9 @@ public final class PointsTest {
             }
         }
         for (int bad : new int[] {0, -1, 301, Integer.MIN_VALUE, Integer.MAX_VALUE}) {
-            CHECK.due("pyramid a " + bad, NO, X.pyramid(bad, 1, 1));
-            CHECK.due("pyramid b " + bad, NO, X.pyramid(1, bad, 1));
-            CHECK.due("pyramid c " + bad, NO, X.pyramid(1, 1, bad));
+            CHECK.due("pyramid a " + bad, NO, X.one().pyramid(bad, 1, 1));
+            CHECK.due("pyramid b " + bad, NO, X.one().pyramid(1, bad, 1));
+            CHECK.due("pyramid c " + bad, NO, X.one().pyramid(1, 1, bad));
         }
     }
 }

@@ -8,7 +8,7 @@ public final class RingsTest {
     private static final int NONE = SawSums.NONE;
     private static final int[] FAR = {-2, Integer.MIN_VALUE, Integer.MAX_VALUE};
     private static final Check CHECK = new Check("rings");
-    private static final SawSums X = new SawSums();
+    private static final Fresh X = new Fresh();
 
     private RingsTest() {
     }
@@ -56,10 +56,10 @@ public final class RingsTest {
 
     private static void couples(int p) {
         for (int q = -p - 2; q <= 2 * p; q++) {
-            CHECK.due("ring " + p + " " + q, ring(p, q) ? classOf(p, q) : NONE, X.ring(p, q));
+            CHECK.due("ring " + p + " " + q, ring(p, q) ? classOf(p, q) : NONE, X.one().ring(p, q));
             for (int o = 0; o <= p + 1; o++) {
                 int want = ring(p, q) && ring(p, o) ? sameness(p, q, o) : NONE;
-                CHECK.due("same " + p + " " + q + " " + o, want, X.same(p, q, o));
+                CHECK.due("same " + p + " " + q + " " + o, want, X.one().same(p, q, o));
             }
         }
     }
@@ -68,22 +68,22 @@ public final class RingsTest {
         int[] great = {Integer.MIN_VALUE, Integer.MAX_VALUE, Integer.MIN_VALUE + 1, 1000000000, -1000000000};
         for (int p : new int[] {2, 3, 999, 1000, 997}) {
             for (int q : great) {
-                CHECK.due("ring " + p + " " + q, ring(p, q) ? classOf(p, q) : NONE, X.ring(p, q));
+                CHECK.due("ring " + p + " " + q, ring(p, q) ? classOf(p, q) : NONE, X.one().ring(p, q));
                 for (int o : great) {
                     int want = ring(p, q) && ring(p, o) ? sameness(p, q, o) : NONE;
-                    CHECK.due("same " + p + " " + q + " " + o, want, X.same(p, q, o));
+                    CHECK.due("same " + p + " " + q + " " + o, want, X.one().same(p, q, o));
                 }
             }
         }
     }
 
     private static void rows(String what, List<Integer> want, boolean twins, int p) {
-        CHECK.due(what + p, want.size(), twins ? X.twins(p, NONE) : X.rings(p, NONE));
+        CHECK.due(what + p, want.size(), twins ? X.one().twins(p, NONE) : X.one().rings(p, NONE));
         for (int i = 0; i < want.size(); i++) {
-            CHECK.due(what + p + " " + i, want.get(i), twins ? X.twins(p, i) : X.rings(p, i));
+            CHECK.due(what + p + " " + i, want.get(i), twins ? X.one().twins(p, i) : X.one().rings(p, i));
         }
         for (int i : new int[] {want.size(), want.size() + 1, FAR[0], FAR[1], FAR[2]}) {
-            CHECK.due(what + p + " " + i, NONE, twins ? X.twins(p, i) : X.rings(p, i));
+            CHECK.due(what + p + " " + i, NONE, twins ? X.one().twins(p, i) : X.one().rings(p, i));
         }
     }
 
@@ -112,18 +112,18 @@ public final class RingsTest {
     }
 
     private static void wrong() {
-        CHECK.yes("some p has TWINS", X.twins(65, NONE) > 0);
+        CHECK.yes("some p has TWINS", X.one().twins(65, NONE) > 0);
         for (int p : new int[] {1, 0, -1, -7, 1001, Integer.MIN_VALUE, Integer.MAX_VALUE}) {
-            CHECK.due("same p " + p, NONE, X.same(p, 1, 1));
-            CHECK.due("ring p " + p, NONE, X.ring(p, 1));
+            CHECK.due("same p " + p, NONE, X.one().same(p, 1, 1));
+            CHECK.due("ring p " + p, NONE, X.one().ring(p, 1));
             for (int i = -2; i < 2; i++) {
-                CHECK.due("rings p " + p, NONE, X.rings(p, i));
-                CHECK.due("twins p " + p, NONE, X.twins(p, i));
+                CHECK.due("rings p " + p, NONE, X.one().rings(p, i));
+                CHECK.due("twins p " + p, NONE, X.one().twins(p, i));
             }
         }
-        CHECK.due("same, q has a common divisor", NONE, X.same(10, 5, 1));
-        CHECK.due("same, o has a common divisor", NONE, X.same(10, 1, 4));
-        CHECK.due("ring, common divisor", NONE, X.ring(1000, 500));
-        CHECK.due("ring, q 0", NONE, X.ring(2, 0));
+        CHECK.due("same, q has a common divisor", NONE, X.one().same(10, 5, 1));
+        CHECK.due("same, o has a common divisor", NONE, X.one().same(10, 1, 4));
+        CHECK.due("ring, common divisor", NONE, X.one().ring(1000, 500));
+        CHECK.due("ring, q 0", NONE, X.one().ring(2, 0));
     }
 }

@@ -3,13 +3,13 @@ import java.util.NoSuchElementException;
 
 /** No call throws by itself whatever it is asked, and 512 of the dearest calls stay well within the room. */
 public final class RoomTest {
-    private static final int CALLS = 512;
+    private static final int CALLS = Fresh.MOST_CALLS;
     // The room holds 7.3 million fields and elements; a twentieth of it, at 8 bytes each.
     private static final long MOST_BYTES = 8L * 7300000 / 20;
-    private static final int MANY = 33;
     private static final int[] EDGES = {0, 1, -1, 2, -2, 3, 4, 5, 7, 12, 20, 281, 300, 301, 500, 501, 997, 999, 1000,
         1001, 10000, 10001, 30000, 30001, 100000, 1000000, 1000001, -1000000, 1000000000, -1000000000, 1000000001,
         Integer.MAX_VALUE, Integer.MIN_VALUE};
+    private static final int MANY = EDGES.length;
     private static final Check CHECK = new Check("room");
 
     private RoomTest() {
@@ -84,13 +84,13 @@ public final class RoomTest {
     }
 
     private static void edges(int call) {
-        SawSums x = new SawSums();
+        Fresh objects = new Fresh();
         long before = 0;
         for (int i = 0; i < MANY * MANY * MANY; i++) {
             int[] n = {EDGES[i % MANY], EDGES[i / MANY % MANY], EDGES[i / MANY / MANY % MANY],
                 EDGES[i * 7 % MANY], EDGES[i * 5 % MANY]};
             try {
-                before += call(x, call, n);
+                before += call(objects.one(), call, n);
             } catch (RuntimeException e) {
                 CHECK.fault("call " + call + " threw " + e);
                 return;

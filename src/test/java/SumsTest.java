@@ -12,7 +12,7 @@ public final class SumsTest {
         BILLION, -BILLION, Integer.MAX_VALUE, Integer.MIN_VALUE};
     private static final int[] WRONG = {0, -1, Integer.MIN_VALUE, Integer.MAX_VALUE};
     private static final Check CHECK = new Check("sums");
-    private static final SawSums X = new SawSums();
+    private static final Fresh X = new Fresh();
 
     private SumsTest() {
     }
@@ -41,7 +41,7 @@ public final class SumsTest {
     }
 
     private static void saw(int a, int b) {
-        fraction("saw " + a + " " + b, Exact.of(a, b).saw(), X.saw(a, b, false), X.saw(a, b, true));
+        fraction("saw " + a + " " + b, Exact.of(a, b).saw(), X.one().saw(a, b, false), X.one().saw(a, b, true));
     }
 
     private static void saw() {
@@ -60,13 +60,13 @@ public final class SumsTest {
                 }
             }
         }
-        CHECK.due("lower number of 1 by 999999999", 1999999998L, X.saw(1, 999999999, true));
+        CHECK.due("lower number of 1 by 999999999", 1999999998L, X.one().saw(1, 999999999, true));
         for (int good : new int[] {1, -5, BILLION}) {
             for (int bad : new int[] {BILLION + 1, -BILLION - 1, Integer.MIN_VALUE, Integer.MAX_VALUE}) {
-                none("saw " + bad + " " + good, X.saw(bad, good, false), X.saw(bad, good, true));
-                none("saw " + good + " " + bad, X.saw(good, bad, false), X.saw(good, bad, true));
+                none("saw " + bad + " " + good, X.one().saw(bad, good, false), X.one().saw(bad, good, true));
+                none("saw " + good + " " + bad, X.one().saw(good, bad, false), X.one().saw(good, bad, true));
             }
-            none("saw " + good + " 0", X.saw(good, 0, false), X.saw(good, 0, true));
+            none("saw " + good + " 0", X.one().saw(good, 0, false), X.one().saw(good, 0, true));
         }
     }
 
@@ -75,7 +75,7 @@ public final class SumsTest {
             for (int h = -70; h <= 70; h++) {
                 Exact want = Exact.slowSum(h, k);
                 CHECK.yes("oracles alike at " + h + " " + k, want.is(Exact.sum(h, k)));
-                fraction("sum " + h + " " + k, want, X.sum(h, k, false), X.sum(h, k, true));
+                fraction("sum " + h + " " + k, want, X.one().sum(h, k, false), X.one().sum(h, k, true));
             }
         }
         Random random = new Random(3);
@@ -92,21 +92,21 @@ public final class SumsTest {
         for (int i = 0; i < 3000; i++) {
             great(random.nextInt(), 1 + random.nextInt(BILLION));
         }
-        CHECK.due("sum(1, 10^9)", 166666666166666667L, X.sum(1, BILLION, false));
-        CHECK.due("sum(1, 10^9) below", 2000000000L, X.sum(1, BILLION, true));
-        CHECK.due("sum(-1, 10^9)", -166666666166666667L, X.sum(-1, BILLION, false));
+        CHECK.due("sum(1, 10^9)", 166666666166666667L, X.one().sum(1, BILLION, false));
+        CHECK.due("sum(1, 10^9) below", 2000000000L, X.one().sum(1, BILLION, true));
+        CHECK.due("sum(-1, 10^9)", -166666666166666667L, X.one().sum(-1, BILLION, false));
         for (int k : new int[] {0, -1, BILLION + 1, Integer.MIN_VALUE, Integer.MAX_VALUE}) {
-            none("sum 1 " + k, X.sum(1, k, false), X.sum(1, k, true));
+            none("sum 1 " + k, X.one().sum(1, k, false), X.one().sum(1, k, true));
         }
     }
 
     private static void great(int h, int k) {
-        fraction("sum " + h + " " + k, Exact.sum(h, k), X.sum(h, k, false), X.sum(h, k, true));
+        fraction("sum " + h + " " + k, Exact.sum(h, k), X.one().sum(h, k, false), X.one().sum(h, k, true));
     }
 
     private static void both(int h, int k) {
         Exact want = Exact.sum(h, k).plus(Exact.sum(k, h));
-        fraction("both " + h + " " + k, want, X.both(h, k, false), X.both(h, k, true));
+        fraction("both " + h + " " + k, want, X.one().both(h, k, false), X.one().both(h, k, true));
     }
 
     private static void both() {
@@ -122,8 +122,8 @@ public final class SumsTest {
             }
         }
         for (int bad : new int[] {0, -1, 30001, Integer.MIN_VALUE, Integer.MAX_VALUE}) {
-            none("both " + bad, X.both(bad, 7, false), X.both(bad, 7, true));
-            none("both 7 " + bad, X.both(7, bad, false), X.both(7, bad, true));
+            none("both " + bad, X.one().both(bad, 7, false), X.one().both(bad, 7, true));
+            none("both 7 " + bad, X.one().both(7, bad, false), X.one().both(7, bad, true));
         }
     }
 
@@ -140,12 +140,12 @@ public final class SumsTest {
         String what = "three " + a + " " + b + " " + c;
         boolean apart = Exact.divisor(a, b) == 1 && Exact.divisor(b, c) == 1 && Exact.divisor(a, c) == 1;
         if (!apart) {
-            none(what, X.three(a, b, c, false), X.three(a, b, c, true));
+            none(what, X.one().three(a, b, c, false), X.one().three(a, b, c, true));
             return;
         }
         Exact want = Exact.sum(a * inverse(b, c), c).plus(Exact.sum(b * inverse(c, a), a))
             .plus(Exact.sum(c * inverse(a, b), b));
-        fraction(what, want, X.three(a, b, c, false), X.three(a, b, c, true));
+        fraction(what, want, X.one().three(a, b, c, false), X.one().three(a, b, c, true));
     }
 
     private static void three() {
@@ -165,9 +165,9 @@ public final class SumsTest {
             }
         }
         for (int bad : new int[] {0, -1, 1001, Integer.MIN_VALUE, Integer.MAX_VALUE}) {
-            none("three " + bad, X.three(bad, 2, 3, false), X.three(bad, 2, 3, true));
-            none("three 2 " + bad, X.three(2, bad, 3, false), X.three(2, bad, 3, true));
-            none("three 2 3 " + bad, X.three(2, 3, bad, false), X.three(2, 3, bad, true));
+            none("three " + bad, X.one().three(bad, 2, 3, false), X.one().three(bad, 2, 3, true));
+            none("three 2 " + bad, X.one().three(2, bad, 3, false), X.one().three(2, bad, 3, true));
+            none("three 2 3 " + bad, X.one().three(2, 3, bad, false), X.one().three(2, 3, bad, true));
         }
     }
 
@@ -179,7 +179,7 @@ public final class SumsTest {
                 want++;
             }
         }
-        CHECK.due("above " + h + " " + k + " " + n, want, X.above(h, k, n));
+        CHECK.due("above " + h + " " + k + " " + n, want, X.one().above(h, k, n));
     }
 
     private static void above() {
@@ -193,8 +193,8 @@ public final class SumsTest {
         above(3, 1000, 1000);
         above(-1, 1000, 1000);
         for (int bad : new int[] {0, -1, 1001, Integer.MIN_VALUE, Integer.MAX_VALUE}) {
-            CHECK.due("above k " + bad, NO, X.above(1, bad, 5));
-            CHECK.due("above n " + bad, NO, X.above(1, 5, bad));
+            CHECK.due("above k " + bad, NO, X.one().above(1, bad, 5));
+            CHECK.due("above n " + bad, NO, X.one().above(1, 5, bad));
         }
     }
 
@@ -227,7 +227,7 @@ public final class SumsTest {
             if (i == NONE) {
                 due = want.size();
             }
-            CHECK.due(what + i, apart ? due : NONE, plus ? X.chain(h, k, i) : X.minus(h, k, i));
+            CHECK.due(what + i, apart ? due : NONE, plus ? X.one().chain(h, k, i) : X.one().minus(h, k, i));
         }
     }
 
@@ -243,10 +243,10 @@ public final class SumsTest {
             }
             links(433494437, k, true);
         }
-        CHECK.due("chain of golden numbers", 42, X.chain(433494437, 701408733, NONE));
+        CHECK.due("chain of golden numbers", 42, X.one().chain(433494437, 701408733, NONE));
         for (int k : new int[] {0, -1, BILLION + 1, Integer.MIN_VALUE, Integer.MAX_VALUE}) {
-            CHECK.due("chain k " + k, NONE, X.chain(1, k, NONE));
-            CHECK.due("chain k " + k, NONE, X.chain(1, k, 0));
+            CHECK.due("chain k " + k, NONE, X.one().chain(1, k, NONE));
+            CHECK.due("chain k " + k, NONE, X.one().chain(1, k, 0));
         }
     }
 
@@ -263,11 +263,11 @@ public final class SumsTest {
             links(k - 1, k, false);
             links(4181, k, false);
         }
-        CHECK.due("longest minus chain", 9999, X.minus(9999, 10000, NONE));
-        CHECK.due("its last", 2, X.minus(9999, 10000, 9998));
+        CHECK.due("longest minus chain", 9999, X.one().minus(9999, 10000, NONE));
+        CHECK.due("its last", 2, X.one().minus(9999, 10000, 9998));
         for (int k : new int[] {0, -1, 10001, Integer.MIN_VALUE, Integer.MAX_VALUE}) {
-            CHECK.due("minus k " + k, NONE, X.minus(1, k, NONE));
-            CHECK.due("minus k " + k, NONE, X.minus(1, k, 0));
+            CHECK.due("minus k " + k, NONE, X.one().minus(1, k, NONE));
+            CHECK.due("minus k " + k, NONE, X.one().minus(1, k, 0));
         }
     }
 
@@ -280,12 +280,12 @@ public final class SumsTest {
             }
         }
         String what = "alike " + h + " " + k + " ";
-        CHECK.due(what + "NONE", want.size(), X.alike(h, k, NONE));
+        CHECK.due(what + "NONE", want.size(), X.one().alike(h, k, NONE));
         for (int i = 0; i < want.size(); i++) {
-            CHECK.due(what + i, want.get(i), X.alike(h, k, i));
+            CHECK.due(what + i, want.get(i), X.one().alike(h, k, i));
         }
         for (int i : new int[] {want.size(), want.size() + 1, -2, Integer.MIN_VALUE, Integer.MAX_VALUE}) {
-            CHECK.due(what + i, NONE, X.alike(h, k, i));
+            CHECK.due(what + i, NONE, X.one().alike(h, k, i));
         }
     }
 
@@ -300,13 +300,13 @@ public final class SumsTest {
                 alike(h, k);
             }
         }
-        CHECK.due("none alike", 0, X.alike(2, 4, NONE));
-        CHECK.due("none alike, the first", NONE, X.alike(2, 4, 0));
+        CHECK.due("none alike", 0, X.one().alike(2, 4, NONE));
+        CHECK.due("none alike, the first", NONE, X.one().alike(2, 4, 0));
         for (int k : WRONG) {
-            CHECK.due("alike k " + k, NONE, X.alike(1, k, NONE));
-            CHECK.due("alike k " + k, NONE, X.alike(1, k, 0));
+            CHECK.due("alike k " + k, NONE, X.one().alike(1, k, NONE));
+            CHECK.due("alike k " + k, NONE, X.one().alike(1, k, 0));
         }
-        CHECK.due("alike k 501", NONE, X.alike(1, 501, NONE));
+        CHECK.due("alike k 501", NONE, X.one().alike(1, 501, NONE));
     }
 
     private static void sorts() {
@@ -319,12 +319,12 @@ public final class SumsTest {
             sorts(k);
         }
         for (int k : WRONG) {
-            CHECK.due("sorts k " + k, NONE, X.sorts(k, 0));
-            CHECK.due("sorts k " + k, NONE, X.sorts(k, 1));
+            CHECK.due("sorts k " + k, NONE, X.one().sorts(k, 0));
+            CHECK.due("sorts k " + k, NONE, X.one().sorts(k, 1));
         }
-        CHECK.due("sorts k 501", NONE, X.sorts(501, 0));
+        CHECK.due("sorts k 501", NONE, X.one().sorts(501, 0));
         for (int what : new int[] {-1, 2, 3, Integer.MIN_VALUE, Integer.MAX_VALUE}) {
-            CHECK.due("sorts what " + what, NONE, X.sorts(7, what));
+            CHECK.due("sorts what " + what, NONE, X.one().sorts(7, what));
         }
     }
 
@@ -340,7 +340,7 @@ public final class SumsTest {
                 unlike.add(value);
             }
         }
-        CHECK.due("sorts " + k + " 0", unlike.size(), X.sorts(k, 0));
-        CHECK.due("sorts " + k + " 1", best, X.sorts(k, 1));
+        CHECK.due("sorts " + k + " 0", unlike.size(), X.one().sorts(k, 0));
+        CHECK.due("sorts " + k + " 1", best, X.one().sorts(k, 1));
     }
 }

@@ -26,31 +26,8 @@ public final class TextTest {
         CHECK.finish();
     }
 
-    private static int four(String text, int from) {
-        int number = 0;
-        for (int i = from; i < from + 4; i++) {
-            number = number << 8 | (i < text.length() ? text.charAt(i) : ' ');
-        }
-        return number;
-    }
-
-    /** Puts a text of at most 300 signs on an empty TAPE. */
-    static void put(SawSums x, String text) {
-        CHECK.due("TAPE ahead of " + text, 0, x.count(0));
-        for (int i = 0; i < text.length(); i += 20) {
-            int want = i + 20;
-            CHECK.due("feed", want, x.feed(four(text, i), four(text, i + 4), four(text, i + 8),
-                four(text, i + 12), four(text, i + 16)));
-        }
-        CHECK.yes("end", x.end(text.length()));
-        CHECK.due("bytes", text.length(), x.count(0));
-    }
-
     private static int tell(SawSums x, String text) {
-        put(x, text);
-        int fault = x.tell();
-        CHECK.due("TAPE behind " + text, 0, x.count(0));
-        return fault;
+        return Tape.tell(CHECK, x, text);
     }
 
     private static void due(String text, long upper, long lower) {
@@ -116,13 +93,12 @@ public final class TextTest {
     private static void order() {
         String text = "12345678+0+987654321";
         SawSums x = new SawSums();
-        put(x, text);
+        Tape.put(CHECK, x, text);
         CHECK.due("all twenty bytes in order", 0, x.tell());
         CHECK.due("their SUM", 999999999, x.told(false));
-        put(x, "1+20000000000000000000");
+        Tape.put(CHECK, x, "1+20000000000000000000");
         CHECK.yes("end 4", x.end(4));
-        CHECK.due("the rest comes behind the first 4", 24, x.feed(four("+5", 0), four("", 0), four("", 0),
-            four("", 0), four("  +7", 0)));
+        CHECK.due("the rest comes behind the first 4", 24, Tape.feed(x, "+5                +7", 0));
         CHECK.due("tell", 0, x.tell());
         CHECK.due("1+20+5+7", 33, x.told(false));
     }
@@ -372,7 +348,7 @@ public final class TextTest {
     private static void apart() {
         SawSums x = new SawSums();
         CHECK.due("tell", 0, tell(x, "s(1,3)"));
-        put(x, "s(1,5)+phi*2");
+        Tape.put(CHECK, x, "s(1,5)+phi*2");
         x.set(2, 5, 1, 3);
         x.saw(1, 3, false);
         x.sum(5, 77, true);
@@ -463,12 +439,12 @@ public final class TextTest {
     private static void random() {
         Random random = new Random(13);
         int[] met = new int[4];
-        for (int run = 0; run < 1500; run++) {
+        for (int run = 0; run < 2000; run++) {
             SawSums x = new SawSums();
             x.shift(random.nextInt(9) - 4);
             x.turn();
             x.shift(random.nextInt(9) - 4);
-            for (int i = 0; i < 20; i++) {
+            for (int i = 0; i < 15; i++) {
                 String text = sum(random, random.nextInt(10));
                 if (i % 3 == 0) {
                     text = broken(random, text);

@@ -16,7 +16,8 @@ public final class RoomTest {
     }
 
     public static void main(String[] args) {
-        for (int call = 0; call <= 32; call++) {
+        // A full text is many calls and takes no numbers, so that it has no edges.
+        for (int call = 0; call < 32; call++) {
             edges(call);
         }
         for (int call = 0; call <= 32; call++) {
